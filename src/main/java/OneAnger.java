@@ -547,7 +547,6 @@ public final class OneAnger {
       week = 0;
       harmDone = 0;
       wrongs = 0;
-      wrongers = 0;
     }
 
     void copyOf(Village other) {
@@ -560,7 +559,6 @@ public final class OneAnger {
       week = other.week;
       harmDone = other.harmDone;
       wrongs = other.wrongs;
-      wrongers = other.wrongers;
     }
 
     boolean has(int p) {
@@ -844,6 +842,7 @@ public final class OneAnger {
   private static final class Text {
     private static final int END = 0, NAME = 1, NUMBER = 2, SIGN = 3, NO_TOKEN = 4;
     private static final int MOST_FIGURES = 3;
+    private static final int ODD = 1, MISPLACED = 2, OUT_OF_BOUNDS = 3, TWICE = 4, TOO_MANY = 5, UNFIT = 6, UNLAWFUL = 7;
     // The lines that tell a RULE have its number.
     private static final int LINE_ONE = RULES;
     private static final int WITH_KEEP = 0, WITH_KIN = 1, WITH_ANGRY = 2, WITH_SEA = 3;
@@ -883,7 +882,6 @@ public final class OneAnger {
     void tell() {
       told.clear();
       failure = NO_FAULT;
-      place = 0;
       lines = 0;
       at = 0;
       ruled = 0;
@@ -922,14 +920,14 @@ public final class OneAnger {
       }
       kind = kindOf(bytes[at]);
       if (kind == NO_TOKEN) {
-        return fail(1, start);
+        return fail(ODD, start);
       }
       at++;
       while (kind != SIGN && at < size && kindOf(bytes[at]) == kind) {
         at++;
       }
       if (kind == NUMBER && at - start > MOST_FIGURES) {
-        return fail(1, start);
+        return fail(ODD, start);
       }
       return true;
     }
@@ -965,7 +963,7 @@ public final class OneAnger {
     }
 
     private boolean misplaced() {
-      return fail(2, start);
+      return fail(MISPLACED, start);
     }
 
     private boolean takeNumber(int least, int most) {
@@ -976,7 +974,7 @@ public final class OneAnger {
         return misplaced();
       }
       number = valueOfToken();
-      return within(number, least, most) || fail(3, start);
+      return within(number, least, most) || fail(OUT_OF_BOUNDS, start);
     }
 
     // -- lines
@@ -996,7 +994,7 @@ public final class OneAnger {
 
     private boolean takeRule(int what) {
       if ((ruled >> what & 1) != 0) {
-        return fail(4, start);
+        return fail(TWICE, start);
       }
       ruled |= 1 << what;
       if (!takeNumber(RULE_LEAST[what], RULE_MOST[what])) {
@@ -1009,7 +1007,7 @@ public final class OneAnger {
     private boolean takeOne() {
       int p = told.people;
       if (p >= PEOPLE) {
-        return fail(5, start);
+        return fail(TOO_MANY, start);
       }
       if (!advance()) {
         return false;
@@ -1074,7 +1072,7 @@ public final class OneAnger {
           return misplaced();
         }
         if ((taken >> with & 1) != 0) {
-          return fail(4, start);
+          return fail(TWICE, start);
         }
         taken |= 1 << with;
         if (with != WITH_SEA && !takeNumber(0, with == WITH_KEEP ? MOST[KEEP] : PEOPLE - 1)) {
@@ -1118,9 +1116,9 @@ public final class OneAnger {
         lawful &= told.angersOf(p) <= told.rules[LAW];
       }
       if (!fitting) {
-        fail(6, size);
+        fail(UNFIT, size);
       } else if (!lawful) {
-        fail(7, size);
+        fail(UNLAWFUL, size);
       }
     }
   }
@@ -1175,7 +1173,6 @@ public final class OneAnger {
       shortest = NONE;
       longest = NONE;
       leastBits = NONE;
-      ends[0] = 0;
       for (int set = 1; set < 1 << v.people; set++) {
         int first = Integer.numberOfTrailingZeros(set);
         int size = Integer.bitCount(set);

@@ -90,6 +90,13 @@ public final class ChancesTest {
     meanIs(x, 0, -72363, 100000);
   }
 
+  private static void theFirst() {
+    OneAnger x = Check.told("see 7;one quick 5 1 2 20 4;one calm 0 0 0 0 1;");
+    oddsAre(x, 1, 0, 3, 10);
+    meanIs(x, 1, -9, 10);
+    due("33: 0", 0, x.likeliest(1));
+  }
+
   private static void guards() {
     // 1 is kept by 2, whom 0 sees as free in 4 of 10.
     OneAnger x = Check.told("see 6;one calm 0 0 0 0 1;one calm 5 1 0 0 1;one guard 0 0 2 20 4 kin 1 sea;");
@@ -120,6 +127,7 @@ public final class ChancesTest {
     feigns();
     extremes();
     several();
+    theFirst();
     guards();
     wrongNumbers();
     CHECK.end();

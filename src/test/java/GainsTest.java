@@ -88,6 +88,12 @@ public final class GainsTest {
     due("27: of himself and of his kin", 3, x.where(1));
     x = Check.told("law 2;one quick 3 0 2 20 4 sea angry 1;one calm 0 0 0 0 1;one calm 0 0 0 0 1;");
     due("27: with no anger at all", 2, x.where(1));
+    x = Check.told("one quick 3 0 2 20 4 sea;one calm 0 0 0 0 1;");
+    due("27: one wrong fewer is enough", 0, x.where(0));
+    due("27: one fewer", 1, x.where(1));
+    x = Check.told("one calm 0 0 0 0 1;one calm 3 0 0 0 1;");
+    due("26: 1 for 0 alone", 2, x.always());
+    due("29: 1 for 0 alone", 1, x.price(1));
   }
 
   private static void hiring() {
@@ -168,6 +174,14 @@ public final class GainsTest {
     x.point(1, 3);
     due("30: 1, 3", 10, x.ring(2));
     due("30: longest", 4, x.ring(1));
+    // Of two ways through all three the one that does not come last closes.
+    x = Check.told("law 2;" + (calm + ";").repeat(3));
+    x.point(0, 1);
+    x.point(0, 2);
+    x.point(1, 2);
+    x.point(1, 0);
+    x.point(2, 1);
+    due("30: 0, 2, 1", 3, x.ring(1));
     // Two rings that share a ONE are no greater ring.
     x = Check.told("law 2;" + (calm + ";").repeat(3));
     x.point(0, 1);

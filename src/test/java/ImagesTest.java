@@ -163,6 +163,13 @@ public final class ImagesTest {
     due("38: ints", 1, x.read(2, 2, 0, 1));
     due("36: new", 1, x.sheet(2, 2, 2));
     due("36: with CELLS 0: himself", -20, x.read(2, 2, 0, 1));
+    x.sheet(3, 2, 2);
+    layAll(x, 3, 3, 0);
+    due("36: the fourth", 1, x.read(3, 2, 0, 1));
+    layAll(x, 3, 3, 2);
+    x.sheet(3, 0, 2);
+    due("36: CELLS of the one before are gone", -20, x.read(3, 0, 0, 1));
+    due("7: 3 with 0 alone", 1, x.one(3, 8));
     x.sheet(2, 2, 40);
     x.sheet(2, 2, 3);
     due("37: it has 3", -12, x.lay(2, 3, 0));

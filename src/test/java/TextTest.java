@@ -108,6 +108,12 @@ public final class TextTest {
     faulty("law 1?", 1, 5);
     faulty("Law 1;", 1, 0);
     faulty("laW 1;", 2, 0);
+    faulty("zaz", 2, 0);
+    faulty("law z", 2, 4);
+    faulty("law{", 1, 3);
+    faulty("law`", 1, 3);
+    faulty("law/", 1, 3);
+    faulty("law:", 1, 3);
     faulty("law", 2, 3);
     faulty("law  ", 2, 5);
     faulty("law 1", 2, 5);
@@ -151,11 +157,19 @@ public final class TextTest {
     faulty("see 1; see", 4, 7);
     faulty("one quick 1 1 1 1 1 sea sea;", 4, 24);
     faulty("one quick 1 1 1 1 1 keep 1 keep", 4, 27);
+    faulty("one quick 1 1 1 1 1 sea keep 1 sea;", 4, 31);
+    faulty("one quick 1 1 1 1 1 kin 1 angry 2 sea keep 0 kin", 4, 45);
     faulty("one quick 1 1 1 1 1 kin 1 kin 1;", 4, 26);
     faulty("one quick 1 1 1 1 1 angry 1 angry 2;", 4, 28);
     String one = "one calm 1 1 1 1 1;";
     faulty(one + one + one + one + one + one + "  one", 5, 116);
     due("4: six are taken", 6, fine(one + one + one + one + one + one, 6).count(0));
+    OneAnger x = fine(one + one + one + one + one + "one calm 1 1 1 1 1 kin 0 angry 4;", 6);
+    due("7: KIN of the sixth", 0, x.one(5, 7));
+    due("7: ANGERS of the sixth", 16, x.one(5, 8));
+    x = fine("one calm 1 1 1 1 1 kin 5 angry 5;" + one + one + one + one + one, 6);
+    due("7: the sixth as KIN", 5, x.one(0, 7));
+    due("7: ANGERS with the sixth", 32, x.one(0, 8));
     due("4: a with of another ONE is no second one", 2, fine("one calm 1 1 1 1 1 sea;one calm 1 1 1 1 1 sea;", 2).now(5));
   }
 
@@ -174,6 +188,7 @@ public final class TextTest {
   private static void newInPlaceOfOld() {
     OneAnger x = Check.told("one quick 5 1 1 20 4 sea;one calm 3 2 2 20 4;law 2;last 7;see 3;");
     x.go(3);
+    x.keep(0);
     x.keep(1);
     x.sheet(0, 1, 5);
     due("4: taken", 1, Check.tell(x, "one guard 0 0 0 0 2;"));
@@ -187,6 +202,7 @@ public final class TextTest {
     due("4: wrongs 0", 0, x.now(2));
     due("4: nobody GOT anything", 0, x.got(0));
     due("4: IMAGES are gone", 0, x.count(2));
+    due("4: back(0)", OneAnger.STATE, x.back(0));
     due("4: back(1)", OneAnger.STATE, x.back(1));
     due("4: SHEETS stay", 5, x.count(4));
     due("5: fault of a faulty one", -10, Check.tell(x, "x"));

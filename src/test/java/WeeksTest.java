@@ -173,8 +173,12 @@ public final class WeeksTest {
     // 2, taken by the sea, is free by a law of two: none of the three WEEKS' two wrongs of HARM 3.
     x = Check.told("one calm 0 0 0 0 1;one calm 0 0 0 0 1;one quick 5 3 2 20 4 sea;");
     due("22: less harm", 100000 - 18, x.two(3));
+    due("22: in one WEEK", 100000 - 6, x.two(1));
     due("22: nothing is changed", 1, x.rule(0));
     due("22: WEEK", 0, x.now(0));
+    // 2 is angry with 0 for four WEEKS, in which both wrong him; by a law of two 1 would not.
+    x = Check.told("one calm 0 0 0 0 1;one calm 0 0 0 0 1;one quick 5 3 2 20 4 angry 0;");
+    due("22: both from the same WEEK on", 100000 - 12, x.two(4));
     x = Check.told("law 2;");
     due("22: LAW is 2", OneAnger.STATE, x.two(1));
     due("22: BAD ahead of STATE", OneAnger.BAD, x.two(0));
@@ -184,6 +188,7 @@ public final class WeeksTest {
     due("23: 0 calm", 100000, x.were(0, 4, 8));
     // 1 calm: 0 wrongs him (SPADE 3) each WEEK, HARM 2.
     due("23: 1 calm", 100000 - 16, x.were(1, 4, 8));
+    due("23: in one WEEK", 100000 - 2, x.were(1, 4, 1));
     due("23: nothing is changed", 0, x.one(1, 0));
     due("23: p 2", OneAnger.BAD, x.were(2, 0, 1));
     due("23: p -1", OneAnger.BAD, x.were(-1, 0, 1));
