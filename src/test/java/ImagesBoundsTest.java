@@ -115,30 +115,42 @@ public final class ImagesBoundsTest {
     }
   }
 
+  private static OneAnger renewed(Place at, int k, int lane, int n) {
+    OneAnger x = at.make();
+    B.due("sheet(" + k + ", " + lane + ", " + n + ") (" + at.name + ")", 1, x.sheet(k, lane, n));
+    x.end(0);
+    Check.tell(x, CALM.repeat(6));
+    return x;
+  }
+
+  /** Each CELL is 0, seen by laying 1 beside it: behind it, but for the last one. */
+  private static void allNought(Place at, int k, int lane, int n) {
+    OneAnger x = renewed(at, k, lane, n);
+    for (int i = n - 2; i >= 0; i--) {
+      x.lay(k, i + 1, 1);
+      B.due("CELL " + i + " is 0", 1, x.read(k, lane, i, 1));
+      B.due("0 with 1", 0, x.rest(0, 1));
+    }
+    if (n > 1) {
+      x = renewed(at, k, lane, n);
+      x.lay(k, n - 2, 1);
+      B.due("the last CELL is 0", 1, x.read(k, lane, n - 2, 1));
+      B.due("1 with 0", 0, x.rest(1, 0));
+    }
+  }
+
   private static void promise36New() {
     B.of(36);
     for (Place at : new Place[] {Place.EMPTY, Place.FULL, Place.TWOS}) {
       for (int k = 0; k <= 3; k++) {
         for (int lane = 0; lane <= 2; lane++) {
           for (int n : new int[] {0, 1, 2, 39, 40}) {
-            OneAnger x = at.make();
-            String row = "sheet(" + k + ", " + lane + ", " + n + ") (" + at.name + ")";
-            B.due(row, 1, x.sheet(k, lane, n));
-            if (k == 0) {
-              B.due("CELLS", n, x.count(4));
-            }
+            allNought(at, k, lane, n);
+            OneAnger x = renewed(at, k, lane, n);
+            B.due("CELLS of SHEET 0", k == 0 ? n : at.make().count(4), x.count(4));
             B.due("the CELL behind the last", -12, x.lay(k, n, 7));
             B.due("of that lane", 0, x.read(k, (lane + 1) % 3, 0, 1));
             B.due("CAST else", 3, x.torn());
-            x.end(0);
-            Check.tell(x, CALM.repeat(6));
-            for (int i = 0; i + 1 < n; i++) {
-              // 0 angry with 0 is refused, and so all CELLS are seen to be 0 by laying 1 beside each.
-              x.lay(k, i + 1, 1);
-              B.due("CELL " + i + " is 0", 1, x.read(k, lane, i, 1));
-              B.due("0 with 1", 0, x.rest(0, 1));
-              x.lay(k, i + 1, 0);
-            }
           }
         }
       }

@@ -401,6 +401,17 @@ public final class TextBoundsTest {
     B.due("IMAGES are gone", 0, x.count(2));
     B.due("back(0)", STATE, x.back(0));
     B.due("back(1)", STATE, x.back(1));
+    OneAnger six = new OneAnger();
+    Check.tell(six, "law 2;" + "one keeper 9 8 7 6 4 keep 20 sea;".repeat(5) + "one guard 9 8 7 6 4 keep 3 kin 0 angry 1;");
+    six.go(2);
+    B.due("six in place of six", 6, Check.tell(six, "one calm 0 0 0 0 1;".repeat(6)));
+    int[] calm = {4, 0, 0, 0, 0, 1, 0, NONE, 0, 1, 0};
+    for (int p = 0; p < 6; p++) {
+      for (int what = 0; what <= 10; what++) {
+        B.due("one(" + p + ", " + what + ") in place of another", calm[what], six.one(p, what));
+      }
+      B.due("got(" + p + ") in place of another", 0, six.got(p));
+    }
     for (Place at : Place.ALL) {
       OneAnger told = at.make();
       int torn = told.torn();

@@ -306,6 +306,7 @@ public final class WeeksBoundsTest {
 
   private static void promise21AsOld() {
     B.of(21);
+    B.due("THE SEA for all six", 1, Check.told("one calm 0 0 0 0 1 sea;".repeat(6)).again(0));
     for (int last = 1; last <= 9; last++) {
       OneAnger x = angry(last, 0, 0, 1);
       // WEEKS 0 to LAST less 1 with it, then without it for ever.
@@ -339,6 +340,12 @@ public final class WeeksBoundsTest {
     }
     int want = Place.FULL.make().two(1);
     B.leaves("two(1)", want, Place.FULL, x -> x.two(1));
+    // 2 is angry with 0 for four WEEKS, in which both wrong him; by a law of two 1 would not.
+    OneAnger x = Check.told(CALM + CALM + "one quick 5 3 2 20 4 angry 0;");
+    B.due("both from the same WEEK on", 100000 - 12, x.two(4));
+    // By a law of two, not of three, 2 has no room left when his guard has wronged him.
+    x = Check.told("one guard 0 0 1 20 4 kin 2;" + CALM + "one quick 9 1 2 20 4 sea;");
+    B.due("two, not three", 100000, x.two(1));
   }
 
   // ---- 23
